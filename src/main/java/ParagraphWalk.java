@@ -538,8 +538,8 @@ public final class ParagraphWalk {
             if (end == OVER && result != other.result) {
                 return false;
             }
-            for (int i = 0; i < begun.length; i++) {
-                if (begunAt(i) != other.begunAt(i)) {
+            for (int i = 0; i < steps && i < begun.length; i++) {
+                if (begun[i] != other.begunAt(i)) {
                     return false;
                 }
             }

@@ -15,6 +15,7 @@ public final class BuildingTest {
         rangesAreNoValues();
         paragraphs();
         answers();
+        answersOfTheLastNode();
         counts();
         due.close();
     }
@@ -295,6 +296,25 @@ public final class BuildingTest {
         due.is("room for one more", x.answer(one, 0), 20);
         due.is("and no other", x.answer(one, 0), ParagraphWalk.NONE);
         due.is("waiting at last", x.count(3), 21);
+    }
+
+    private static void answersOfTheLastNode() {
+        ParagraphWalk x = new ParagraphWalk(10L);
+        for (int n = 1; n <= 200; n++) {
+            x.node(25, 0, 0);
+        }
+        x.paragraph(200, 0);
+        for (int i = 1; i <= 20; i++) {
+            due.is("answer " + i + " of node 200", x.answer(200, i < 20 ? 0 : 9), i);
+        }
+        due.is("answer of node 1", x.answer(1, 0), 1);
+        due.is("waiting", x.count(3), 21);
+        for (int i = 1; i <= 20; i++) {
+            due.is("second " + i, x.second(1), 1);
+            due.is("run " + i, x.run(1), i < 20 ? 1 : 2);
+        }
+        due.is("raised", x.raised(), 19);
+        due.is("waiting then", x.count(3), 1);
     }
 
     private static void counts() {

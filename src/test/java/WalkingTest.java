@@ -16,6 +16,7 @@ public final class WalkingTest {
         evaluateRaises();
         goTo();
         goByValue();
+        goToTheLast();
         exits();
         sectionsGrow();
         sentences();
@@ -216,7 +217,7 @@ public final class WalkingTest {
             int behind = x.node(20, 0, 0);
             int downwards = x.node(16, x.node(8, number(x, 9), number(x, 7)), says[4]);
             int four = x.node(16, number(x, 4), says[0]);
-            int range = x.node(16, x.node(8, number(x, 2), number(x, 4)), says[1]);
+            int range = x.node(16, x.node(8, number(x, 2), number(x, 6)), says[1]);
             int again = x.node(16, number(x, 3), says[2]);
             int any = x.node(16, 0, says[3]);
             int fewer = x.node(15, downwards, x.node(15, four, x.node(15, range, x.node(15, again, 0))));
@@ -227,7 +228,7 @@ public final class WalkingTest {
             due.is("run by " + v, x.run(2), 1);
             due.order("with any, by " + v, x, other, v == 4 ? says[0] : says[3], behind);
             x.run(1);
-            int fit = v == 4 ? says[0] : v == 2 || v == 3 ? says[1] : 0;
+            int fit = v == 4 ? says[0] : v >= 2 && v <= 6 ? says[1] : 0;
             due.is("by " + v + ": order(0)", x.order(0), one);
             due.is("by " + v + ": order(1)", x.order(1), fit == 0 ? behind : fit);
             due.is("by " + v + ": steps", x.count(4), fit == 0 ? 5 : 6);
@@ -295,6 +296,24 @@ public final class WalkingTest {
         }
     }
 
+    private static void goToTheLast() {
+        ParagraphWalk x = new ParagraphWalk(20L);
+        x.cell(2, 30L);
+        int byValue = x.node(18, 1, x.node(1, 0, 0));
+        int byNumber = x.node(17, 30, 0);
+        int last = x.node(23, number(x, 5), 0);
+        x.paragraph(byValue, 0);
+        x.paragraph(byNumber, 0);
+        for (int p = 3; p < 30; p++) {
+            x.paragraph(0, 0);
+        }
+        x.paragraph(last, 0);
+        x.run(1);
+        due.order("by value 30", x, byValue, last);
+        x.run(2);
+        due.order("by number 30", x, byNumber, last);
+    }
+
     private static void exits() {
         ParagraphWalk x = new ParagraphWalk(20L);
         int behind = x.node(20, 0, 0);
@@ -311,6 +330,7 @@ public final class WalkingTest {
         x.paragraph(then(x, mark[5], exitS, behind), 5);
         x.paragraph(mark[6], 4);
         x.paragraph(then(x, mark[7], exitS, behind), 4);
+        x.paragraph(behind, 4);
         due.is("run", x.run(1), 1);
         due.order("exits", x, mark[1], exitP, mark[2], exitS, mark[5], exitS, mark[6], mark[7], exitS);
         due.is("run from 3", x.run(3), 1);
@@ -426,6 +446,7 @@ public final class WalkingTest {
         due.is("waiting", x.count(3), 1);
         due.is("place", x.place(), by);
         due.is("gone on", x.goOn(9L), 1);
+        due.is("place of a run gone on to its end", x.place(), 0);
         due.order("all", x, it, other, it, by, it, by, it);
         due.is("none waits", x.count(3), 0);
         for (int round = 0; round < 15; round++) {
@@ -557,6 +578,9 @@ public final class WalkingTest {
         due.is("spent", x.run(3), 0);
         due.is("raised is of the latest", x.raised(), 0);
         due.is("result behind a spent one", x.result(), 42);
+        due.is("place of the spent one", x.place(), go);
+        due.is("over again", x.run(1), 1);
+        due.is("place behind it", x.place(), 0);
     }
 
     private static void deepNests() {
