@@ -12,6 +12,8 @@ public final class ParagraphWalk {
     private static final int MAX_DIGITS = 18;
     private static final int MAX_NODES = 200;
     private static final int MAX_VALUE_NODES = 100;
+    // Each node that joins has two below it, so a value is at most half as deep as it is large.
+    private static final int MAX_VALUE_DEPTH = MAX_VALUE_NODES / 2;
     private static final int MAX_PARAGRAPHS = 30;
     private static final int MAX_SECTION = 9;
     private static final int MAX_WAITING = 20;
@@ -678,7 +680,7 @@ public final class ParagraphWalk {
             if (kind == CELL) {
                 return scene.valueOf(nodes.aOf(value));
             }
-            if (depth > MAX_VALUE_NODES) {
+            if (kind < PLUS || kind > EQUAL || depth >= MAX_VALUE_DEPTH) {
                 return 0L;
             }
             long left = reckon(nodes.aOf(value), depth + 1);

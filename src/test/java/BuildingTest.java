@@ -186,17 +186,9 @@ public final class BuildingTest {
         due.is("exit 1", x.node(19, 1, -5), 7);
     }
 
-    private static int doubled(ParagraphWalk x, int times) {
-        int value = x.node(0, 1, 0);
-        for (int i = 0; i < times; i++) {
-            value = x.node(2, value, value);
-        }
-        return value;
-    }
-
     private static void firstOfTheRefusals() {
         ParagraphWalk x = new ParagraphWalk(10L);
-        int large = doubled(x, 5);
+        int large = Parts.doubled(x, 5);
         due.is("the node of 63", large, 6);
         for (int n = 7; n <= 200; n++) {
             due.is("node " + n, x.node(20, 0, 0), n);
@@ -214,7 +206,7 @@ public final class BuildingTest {
 
     private static void largeValues() {
         ParagraphWalk x = new ParagraphWalk(10L);
-        int n63 = doubled(x, 5);
+        int n63 = Parts.doubled(x, 5);
         int one = 1;
         int n31 = 5;
         int n95 = x.node(3, n63, n31);
@@ -237,7 +229,7 @@ public final class BuildingTest {
 
     private static void rangesAreNoValues() {
         ParagraphWalk x = new ParagraphWalk(10L);
-        int n63 = doubled(x, 5);
+        int n63 = Parts.doubled(x, 5);
         due.is("a range of two large values", x.node(8, n63, n63), 7);
     }
 

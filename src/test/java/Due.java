@@ -35,6 +35,10 @@ final class Due {
         is(what + ": count(4)", x.count(4), statements.length);
     }
 
+    int wrong() {
+        return wrong;
+    }
+
     void close() {
         if (wrong != 0) {
             System.out.println(wrong + " answers are not as due");

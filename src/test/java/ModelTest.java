@@ -4,7 +4,8 @@ import java.util.Random;
 
 /** Random runs of calls, of given seeds, answered by the class and by the model. */
 public final class ModelTest {
-    private static final int OBJECTS = 2000;
+    private static final int OBJECTS = 8000;
+    // What an object answers behind so many calls is free.
     private static final int CALLS = 512;
     private static final int[] ODD = {0, -1, 1, 31, 41, 200, 201, Integer.MIN_VALUE, Integer.MAX_VALUE};
     private static final Due due = new Due();
@@ -14,6 +15,7 @@ public final class ModelTest {
     private final Model model;
     private final StringBuilder said = new StringBuilder();
     private final int oddness;
+    private int calls = 0;
 
     private ModelTest(long seed) {
         random = new Random(seed);
@@ -37,8 +39,8 @@ public final class ModelTest {
 
     private void callAll(long[] ends) {
         int builds = 20 + random.nextInt(300);
-        for (int i = 0; i < CALLS; i++) {
-            int which = i < builds ? random.nextInt(12) : random.nextInt(100);
+        for (int turn = 0; turn < CALLS && calls < CALLS; turn++) {
+            int which = calls < builds ? random.nextInt(12) : random.nextInt(100);
             if (which < 2) {
                 cell();
             } else if (which < 10) {
@@ -121,7 +123,8 @@ public final class ModelTest {
     private void paragraph() {
         int root = of("s0");
         int section = random.nextInt(3) == 0 ? numbered(0, 9) : random.nextInt(2);
-        checkChange("paragraph(" + root + ", " + section + ")", x.paragraph(root, section), model.paragraph(root, section));
+        String call = "paragraph(" + root + ", " + section + ")";
+        checkChange(call, x.paragraph(root, section), model.paragraph(root, section));
     }
 
     private void walk(int which, long[] ends) {
@@ -142,28 +145,40 @@ public final class ModelTest {
         } else if (which < 85) {
             check("second(" + p + ")", x.second(p), model.second(p));
         }
-        compareAll();
+        int looks = random.nextInt(10);
+        for (int i = 0; i < looks && calls < CALLS; i++) {
+            look(random.nextInt(12));
+        }
     }
 
-    private void compareAll() {
-        check("place()", x.place(), model.place());
-        check("raised()", x.raised(), model.raised());
-        check("result()", x.result(), model.result());
-        for (int what = -1; what <= 5; what++) {
-            check("count(" + what + ")", x.count(what), model.count(what));
+    private void look(int which) {
+        switch (which) {
+            case 0: check("place()", x.place(), model.place()); break;
+            case 1: check("raised()", x.raised(), model.raised()); break;
+            case 2: check("result()", x.result(), model.result()); break;
+            case 3: lookAtCount(random.nextInt(7) - 1); break;
+            case 4: lookAtCount(4); break;
+            case 5: case 6: lookAtCell(numbered(0, model.cells.size() - 1)); break;
+            case 7: case 8: lookAtOrder(model.count(4) - random.nextInt(4)); break;
+            default: lookAtOrder(numbered(0, Math.min(1001, model.count(4)))); break;
         }
-        for (int i = -1; i <= Math.min(1001, model.count(4)); i++) {
-            if (x.order(i) != model.order(i)) {
-                check("order(" + i + ")", x.order(i), model.order(i));
-            }
-        }
-        for (int cell = -1; cell <= model.cells.size(); cell++) {
-            Long want = model.get(cell);
-            if (want == null) {
-                due.noCell("get(" + cell + ")", x, cell);
-            } else {
-                check("get(" + cell + ")", x.get(cell), want);
-            }
+    }
+
+    private void lookAtCount(int what) {
+        check("count(" + what + ")", x.count(what), model.count(what));
+    }
+
+    private void lookAtOrder(int i) {
+        check("order(" + i + ")", x.order(i), model.order(i));
+    }
+
+    private void lookAtCell(int cell) {
+        Long want = model.get(cell);
+        if (want == null) {
+            calls++;
+            due.noCell(said + " | get(" + cell + ")", x, cell);
+        } else {
+            check("get(" + cell + ")", x.get(cell), want);
         }
     }
 
@@ -173,6 +188,7 @@ public final class ModelTest {
     }
 
     private void check(String call, long got, long want) {
+        calls++;
         if (got != want) {
             due.is(said + " | " + call, got, want);
             due.close();

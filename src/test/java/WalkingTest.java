@@ -35,22 +35,6 @@ public final class WalkingTest {
         due.close();
     }
 
-    private static int number(ParagraphWalk x, int n) {
-        return x.node(0, n, 0);
-    }
-
-    private static int set(ParagraphWalk x, int cell, int n) {
-        return x.node(9, cell, number(x, n));
-    }
-
-    private static int then(ParagraphWalk x, int... statements) {
-        int all = statements[statements.length - 1];
-        for (int i = statements.length - 2; i >= 0; i--) {
-            all = x.node(10, statements[i], all);
-        }
-        return all;
-    }
-
     private static void noSuchParagraph() {
         ParagraphWalk x = new ParagraphWalk(10L);
         x.paragraph(0, 0);
@@ -82,21 +66,10 @@ public final class WalkingTest {
 
     private static long valueOf(int kind, long left, long right) {
         ParagraphWalk x = new ParagraphWalk(10L);
-        x.node(23, x.node(kind, built(x, left), built(x, right)), 0);
+        x.node(23, x.node(kind, Parts.longNumber(x, left), Parts.longNumber(x, right)), 0);
         x.paragraph(x.count(1), 0);
         due.is("run of kind " + kind, x.run(1), 1);
         return x.result();
-    }
-
-    // Numbers of nodes are ints, so a long is put together of its two halves.
-    private static int built(ParagraphWalk x, long v) {
-        if (v == (int) v) {
-            return number(x, (int) v);
-        }
-        int half = number(x, 1 << 16);
-        int high = x.node(4, x.node(4, number(x, (int) (v >> 32)), half), half);
-        int low = x.node(2, x.node(4, number(x, (int) ((v >> 16) & 0xffff)), half), number(x, (int) (v & 0xffff)));
-        return x.node(2, high, low);
     }
 
     private static void arithmetic() {
@@ -132,10 +105,10 @@ public final class WalkingTest {
     private static void divisionByZero() {
         ParagraphWalk x = new ParagraphWalk(10L);
         x.cell(3, 5L);
-        int bad = x.node(5, number(x, 0), number(x, 0));
-        int good = set(x, 0, 7);
-        int division = x.node(9, 0, x.node(2, number(x, 1), bad));
-        int root = then(x, good, division, set(x, 0, 9));
+        int bad = x.node(5, Parts.number(x, 0), Parts.number(x, 0));
+        int good = Parts.set(x, 0, 7);
+        int division = x.node(9, 0, x.node(2, Parts.number(x, 1), bad));
+        int root = Parts.then(x, good, division, Parts.set(x, 0, 9));
         x.paragraph(root, 0);
         x.paragraph(good, 0);
         due.is("run", x.run(1), 2);
@@ -153,7 +126,7 @@ public final class WalkingTest {
         for (int kind : kinds) {
             ParagraphWalk x = new ParagraphWalk(10L);
             x.cell(3, 5L);
-            int bad = x.node(5, number(x, 1), number(x, 0));
+            int bad = x.node(5, Parts.number(x, 1), Parts.number(x, 0));
             int go = x.node(20, 0, 0);
             int sides = x.node(13, go, go);
             int list = x.node(15, x.node(16, 0, go), 0);
@@ -171,8 +144,8 @@ public final class WalkingTest {
         ParagraphWalk x = new ParagraphWalk(10L);
         x.cell(2, 0L);
         x.cell(18, 0L);
-        x.paragraph(then(x, set(x, 0, -12345), set(x, 1, -12345)), 0);
-        x.paragraph(x.node(9, 1, built(x, Long.MIN_VALUE)), 0);
+        x.paragraph(Parts.then(x, Parts.set(x, 0, -12345), Parts.set(x, 1, -12345)), 0);
+        x.paragraph(x.node(9, 1, Parts.longNumber(x, Long.MIN_VALUE)), 0);
         x.run(1);
         due.is("two digits", x.get(0), -45);
         due.is("18 digits of the least", x.get(1), -223372036854775808L);
@@ -182,8 +155,8 @@ public final class WalkingTest {
         ParagraphWalk x = new ParagraphWalk(10L);
         x.cell(3, 1L);
         int cell = x.node(1, 0, 0);
-        int up = x.node(9, 0, x.node(2, cell, number(x, 1)));
-        int loop = x.node(11, cell, then(x, set(x, 0, 0), up));
+        int up = x.node(9, 0, x.node(2, cell, Parts.number(x, 1)));
+        int loop = x.node(11, cell, Parts.then(x, Parts.set(x, 0, 0), up));
         x.paragraph(loop, 0);
         due.is("run", x.run(1), 1);
         due.is("the cell", x.get(0), 1);
@@ -193,7 +166,7 @@ public final class WalkingTest {
     private static void ifs() {
         for (int v = -1; v <= 1; v++) {
             ParagraphWalk x = new ParagraphWalk(10L);
-            int value = number(x, v);
+            int value = Parts.number(x, v);
             int one = x.node(20, 0, 0);
             int two = x.node(20, 0, 0);
             int behind = x.node(20, 0, 0);
@@ -215,14 +188,14 @@ public final class WalkingTest {
             ParagraphWalk x = new ParagraphWalk(10L);
             int[] says = {x.node(20, 0, 0), x.node(20, 0, 0), x.node(20, 0, 0), x.node(20, 0, 0), x.node(20, 0, 0)};
             int behind = x.node(20, 0, 0);
-            int downwards = x.node(16, x.node(8, number(x, 9), number(x, 7)), says[4]);
-            int four = x.node(16, number(x, 4), says[0]);
-            int range = x.node(16, x.node(8, number(x, 2), number(x, 6)), says[1]);
-            int again = x.node(16, number(x, 3), says[2]);
+            int downwards = x.node(16, x.node(8, Parts.number(x, 9), Parts.number(x, 7)), says[4]);
+            int four = x.node(16, Parts.number(x, 4), says[0]);
+            int range = x.node(16, x.node(8, Parts.number(x, 2), Parts.number(x, 6)), says[1]);
+            int again = x.node(16, Parts.number(x, 3), says[2]);
             int any = x.node(16, 0, says[3]);
             int fewer = x.node(15, downwards, x.node(15, four, x.node(15, range, x.node(15, again, 0))));
-            int one = x.node(14, number(x, v), fewer);
-            int other = x.node(14, number(x, v), x.node(15, four, x.node(15, any, x.node(15, range, 0))));
+            int one = x.node(14, Parts.number(x, v), fewer);
+            int other = x.node(14, Parts.number(x, v), x.node(15, four, x.node(15, any, x.node(15, range, 0))));
             x.paragraph(x.node(10, one, behind), 0);
             x.paragraph(x.node(10, other, behind), 0);
             due.is("run by " + v, x.run(2), 1);
@@ -238,19 +211,19 @@ public final class WalkingTest {
     private static void evaluateRaises() {
         ParagraphWalk x = new ParagraphWalk(10L);
         int says = x.node(20, 0, 0);
-        int bad = x.node(5, number(x, 1), number(x, 0));
-        int five = x.node(16, number(x, 5), says);
+        int bad = x.node(5, Parts.number(x, 1), Parts.number(x, 0));
+        int five = x.node(16, Parts.number(x, 5), says);
         int badWhen = x.node(16, bad, says);
-        int badLow = x.node(16, x.node(8, bad, number(x, 9)), says);
-        int badHigh = x.node(16, x.node(8, number(x, 7), bad), says);
+        int badLow = x.node(16, x.node(8, bad, Parts.number(x, 9)), says);
+        int badHigh = x.node(16, x.node(8, Parts.number(x, 7), bad), says);
         int[] whens = {badWhen, badLow, badHigh};
         for (int when : whens) {
-            int ahead = x.node(14, number(x, 5), x.node(15, when, x.node(15, five, 0)));
+            int ahead = x.node(14, Parts.number(x, 5), x.node(15, when, x.node(15, five, 0)));
             int p = x.paragraph(ahead, 0);
             due.is("raising ahead of the one that fits", x.run(p), 2);
             due.is("it raises", x.raised(), 1);
             due.order("ahead", x, ahead);
-            int behind = x.node(14, number(x, 5), x.node(15, five, x.node(15, when, 0)));
+            int behind = x.node(14, Parts.number(x, 5), x.node(15, five, x.node(15, when, 0)));
             p = x.paragraph(behind, 0);
             due.is("raising behind the one that fits", x.run(p), 1);
             due.order("behind", x, behind, says);
@@ -263,9 +236,9 @@ public final class WalkingTest {
         int to3 = x.node(17, 3, 0);
         int to4 = x.node(17, 4, 0);
         int to30 = x.node(17, 30, 0);
-        x.paragraph(then(x, to4, to30, to3, behind), 0);
+        x.paragraph(Parts.then(x, to4, to30, to3, behind), 0);
         x.paragraph(behind, 0);
-        int stop = x.node(23, number(x, 8), 0);
+        int stop = x.node(23, Parts.number(x, 8), 0);
         x.paragraph(stop, 0);
         due.is("run", x.run(1), 1);
         due.order("going to 3", x, to4, to30, to3, stop);
@@ -280,12 +253,12 @@ public final class WalkingTest {
         for (int a = 1; a <= 30; a += a < 4 ? 1 : 13) {
             for (long v : values) {
                 ParagraphWalk x = new ParagraphWalk(20L);
-                int go = x.node(18, a, built(x, v));
-                int behind = x.node(23, number(x, 99), 0);
+                int go = x.node(18, a, Parts.longNumber(x, v));
+                int behind = x.node(23, Parts.number(x, 99), 0);
                 x.paragraph(0, 0);
-                x.paragraph(x.node(23, number(x, 2), 0), 0);
-                x.paragraph(x.node(23, number(x, 3), 0), 0);
-                x.paragraph(x.node(23, number(x, 4), 0), 0);
+                x.paragraph(x.node(23, Parts.number(x, 2), 0), 0);
+                x.paragraph(x.node(23, Parts.number(x, 3), 0), 0);
+                x.paragraph(x.node(23, Parts.number(x, 4), 0), 0);
                 x.paragraph(x.node(10, go, behind), 0);
                 long to = v >= 1 && v <= 30 ? a - 1 + v : 99;
                 due.is("run from " + a + " by " + v, x.run(5), to == 5 ? 0 : 1);
@@ -301,7 +274,7 @@ public final class WalkingTest {
         x.cell(2, 30L);
         int byValue = x.node(18, 1, x.node(1, 0, 0));
         int byNumber = x.node(17, 30, 0);
-        int last = x.node(23, number(x, 5), 0);
+        int last = x.node(23, Parts.number(x, 5), 0);
         x.paragraph(byValue, 0);
         x.paragraph(byNumber, 0);
         for (int p = 3; p < 30; p++) {
@@ -323,13 +296,13 @@ public final class WalkingTest {
         for (int i = 1; i <= 7; i++) {
             mark[i] = x.node(20, 0, 0);
         }
-        x.paragraph(then(x, mark[1], x.node(22, exitP, 0), behind), 4);
-        x.paragraph(then(x, mark[2], exitS, behind), 4);
+        x.paragraph(Parts.then(x, mark[1], x.node(22, exitP, 0), behind), 4);
+        x.paragraph(Parts.then(x, mark[2], exitS, behind), 4);
         x.paragraph(mark[3], 4);
         x.paragraph(0, 4);
-        x.paragraph(then(x, mark[5], exitS, behind), 5);
+        x.paragraph(Parts.then(x, mark[5], exitS, behind), 5);
         x.paragraph(mark[6], 4);
-        x.paragraph(then(x, mark[7], exitS, behind), 4);
+        x.paragraph(Parts.then(x, mark[7], exitS, behind), 4);
         x.paragraph(behind, 4);
         due.is("run", x.run(1), 1);
         due.order("exits", x, mark[1], exitP, mark[2], exitS, mark[5], exitS, mark[6], mark[7], exitS);
@@ -354,11 +327,11 @@ public final class WalkingTest {
     private static void sentences() {
         ParagraphWalk x = new ParagraphWalk(20L);
         int next = x.node(21, 0, 0);
-        int skipped = x.node(24, number(x, 1), 0);
+        int skipped = x.node(24, Parts.number(x, 1), 0);
         int[] mark = {x.node(20, 0, 0), x.node(20, 0, 0), x.node(20, 0, 0)};
-        int inner = x.node(22, then(x, next, skipped), 0);
-        int outer = x.node(22, then(x, inner, mark[0], next, skipped), 0);
-        x.paragraph(then(x, outer, mark[1], next, skipped), 0);
+        int inner = x.node(22, Parts.then(x, next, skipped), 0);
+        int outer = x.node(22, Parts.then(x, inner, mark[0], next, skipped), 0);
+        x.paragraph(Parts.then(x, outer, mark[1], next, skipped), 0);
         x.paragraph(mark[2], 0);
         due.is("run", x.run(1), 1);
         due.order("sentences", x, next, mark[0], next, mark[1], next, mark[2]);
@@ -367,17 +340,17 @@ public final class WalkingTest {
 
     private static void sentencesInPaths() {
         ParagraphWalk x = new ParagraphWalk(30L);
-        int one = number(x, 1);
+        int one = Parts.number(x, 1);
         int next = x.node(21, 0, 0);
         int skipped = x.node(24, one, 0);
         int mark = x.node(20, 0, 0);
-        int byIf = x.node(11, one, then(x, next, skipped));
-        int bySide = x.node(12, one, x.node(13, then(x, next, skipped), skipped));
-        int byWhen = x.node(14, one, x.node(15, x.node(16, one, then(x, next, skipped)), 0));
-        int byNone = x.node(25, skipped, then(x, next, skipped));
+        int byIf = x.node(11, one, Parts.then(x, next, skipped));
+        int bySide = x.node(12, one, x.node(13, Parts.then(x, next, skipped), skipped));
+        int byWhen = x.node(14, one, x.node(15, x.node(16, one, Parts.then(x, next, skipped)), 0));
+        int byNone = x.node(25, skipped, Parts.then(x, next, skipped));
         int[] ways = {byIf, bySide, byWhen, byNone};
         for (int way : ways) {
-            int p = x.paragraph(then(x, x.node(22, then(x, way, skipped), 0), mark, x.node(23, one, 0)), 0);
+            int p = x.paragraph(Parts.then(x, x.node(22, Parts.then(x, way, skipped), 0), mark, x.node(23, one, 0)), 0);
             due.is("run", x.run(p), 1);
             due.is("steps by " + way, x.count(4), 4);
             due.is("the way " + way, x.order(0), way);
@@ -385,7 +358,7 @@ public final class WalkingTest {
             due.is("behind the sentence of " + way, x.order(2), mark);
         }
         int shared = x.node(22, next, 0);
-        int p = x.paragraph(then(x, shared, shared, next, skipped), 0);
+        int p = x.paragraph(Parts.then(x, shared, shared, next, skipped), 0);
         due.is("run of shared ones", x.run(p), 1);
         due.order("shared", x, next, next, next);
     }
@@ -394,8 +367,8 @@ public final class WalkingTest {
         for (int kind = 23; kind <= 24; kind++) {
             ParagraphWalk x = new ParagraphWalk(20L);
             int behind = x.node(20, 0, 0);
-            int end = x.node(kind, built(x, Long.MIN_VALUE + 5), 0);
-            x.paragraph(then(x, x.node(22, end, 0), behind), 0);
+            int end = x.node(kind, Parts.longNumber(x, Long.MIN_VALUE + 5), 0);
+            x.paragraph(Parts.then(x, x.node(22, end, 0), behind), 0);
             x.paragraph(behind, 0);
             due.is("run of " + kind, x.run(1), 1);
             due.is("result of " + kind, x.result(), Long.MIN_VALUE + 5);
@@ -424,7 +397,8 @@ public final class WalkingTest {
                 due.is(what, x.run(1), raises ? 2 : 1);
                 due.is(what + " raises", x.raised(), raises ? 10 + answer : 0);
                 int leads = answer <= 0 ? (form < 2 ? 0 : without) : (form % 2 == 0 ? 0 : by);
-                int[] all = raises ? new int[] {it} : leads == 0 ? new int[] {it, behind} : new int[] {it, leads, behind};
+                int[] through = leads == 0 ? new int[] {it, behind} : new int[] {it, leads, behind};
+                int[] all = raises ? new int[] {it} : through;
                 due.order(what, x, all);
                 due.is(what + " is taken", x.count(3), 0);
             }
@@ -436,7 +410,7 @@ public final class WalkingTest {
         int by = x.node(20, 0, 0);
         int it = x.node(25, by, 0);
         int other = x.node(25, by, 0);
-        x.paragraph(then(x, it, other, it, it, it), 0);
+        x.paragraph(Parts.then(x, it, other, it, it, it), 0);
         x.answer(it, 0);
         x.answer(it, 9);
         x.answer(other, 0);
@@ -462,7 +436,7 @@ public final class WalkingTest {
     private static void orderIsOfTheLatest() {
         ParagraphWalk x = new ParagraphWalk(20L);
         int one = x.node(20, 0, 0);
-        x.paragraph(then(x, one, one, one), 0);
+        x.paragraph(Parts.then(x, one, one, one), 0);
         x.paragraph(one, 0);
         x.run(1);
         due.order("the longer one", x, one, one, one, one);
@@ -510,7 +484,7 @@ public final class WalkingTest {
     private static void goingOn() {
         ParagraphWalk x = new ParagraphWalk(1L);
         x.cell(3, 0L);
-        int up = x.node(9, 0, x.node(2, x.node(1, 0, 0), number(x, 1)));
+        int up = x.node(9, 0, x.node(2, x.node(1, 0, 0), Parts.number(x, 1)));
         int go = x.node(17, 1, 0);
         x.paragraph(x.node(10, up, go), 0);
         due.is("none is spent", x.goOn(1L), -5);
@@ -538,10 +512,10 @@ public final class WalkingTest {
         int by = x.node(20, 0, 0);
         int it = x.node(25, by, 0);
         int go = x.node(17, 3, 0);
-        x.paragraph(then(x, by, it, go), 0);
+        x.paragraph(Parts.then(x, by, it, go), 0);
         due.is("run", x.run(1), 0);
         due.is("place", x.place(), it);
-        int late = x.node(23, number(x, 6), 0);
+        int late = x.node(23, Parts.number(x, 6), 0);
         x.answer(it, 3);
         x.paragraph(by, 0);
         x.paragraph(late, 0);
@@ -566,8 +540,8 @@ public final class WalkingTest {
 
     private static void resultStays() {
         ParagraphWalk x = new ParagraphWalk(2L);
-        int stop = x.node(23, number(x, 42), 0);
-        int raise = x.node(23, x.node(5, stop - 1, number(x, 0)), 0);
+        int stop = x.node(23, Parts.number(x, 42), 0);
+        int raise = x.node(23, x.node(5, stop - 1, Parts.number(x, 0)), 0);
         int go = x.node(17, 3, 0);
         x.paragraph(stop, 0);
         x.paragraph(raise, 0);
@@ -587,7 +561,7 @@ public final class WalkingTest {
         int[] kinds = {10, 11, 12, 14, 22, 25};
         for (int kind : kinds) {
             ParagraphWalk x = new ParagraphWalk(1000L);
-            int one = number(x, 1);
+            int one = Parts.number(x, 1);
             int stop = x.node(24, one, 0);
             int end = x.node(20, 0, 0);
             int s = end;
