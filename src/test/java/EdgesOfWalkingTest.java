@@ -60,6 +60,23 @@ public final class EdgesOfWalkingTest {
             x.paragraph(0, 0);
             due.is("the end behind the last step", x.run(1), 1);
         });
+        edges.of("6: nothing but its steps ends a run without end, however long the way between two of them", due -> {
+            ParagraphWalk x = new ParagraphWalk(1000L);
+            int go = x.node(17, 1, 0);
+            int deep = Parts.goOnward(x);
+            for (int n = 3; n <= 200; n++) {
+                deep = x.node(22, deep, 0);
+            }
+            for (int p = 1; p < 30; p++) {
+                x.paragraph(deep, 0);
+            }
+            x.paragraph(go, 0);
+            due.is("run", x.run(1), 0);
+            due.is("steps", x.count(4), 1000);
+            due.is("gone on", x.goOn(1000L), 0);
+            due.is("steps then", x.count(4), 2000);
+            due.is("second", x.second(1), 1);
+        });
         edges.of("6: -2 below the first paragraph", due -> {
             ParagraphWalk x = ofFour(5L);
             due.is("run(0)", x.run(0), -2);
@@ -234,6 +251,28 @@ public final class EdgesOfWalkingTest {
                 due.is("steps of " + it, x.count(4), 3);
             }
         });
+        edges.of("9: the same when a way leads into the first node", due -> {
+            ParagraphWalk x = new ParagraphWalk(20L);
+            due.is("the first node", Parts.goOnward(x), 1);
+            int it = x.node(11, Parts.number(x, 1), 1);
+            x.paragraph(it, 0);
+            due.is("second", x.second(1), 1);
+            x.run(1);
+            due.order("all", x, it, 1);
+        });
+        edges.of("9: the same when a sentence is left by going, exits, stops and what is raised", due -> {
+            for (int form = 0; form < 7; form++) {
+                ParagraphWalk x = new ParagraphWalk(20L);
+                int one = Parts.goOnward(x);
+                int way = wayOut(x, form);
+                x.paragraph(Parts.then(x, one, x.node(22, Parts.then(x, one, x.node(22, way, 0), one), 0), one), 0);
+                x.paragraph(one, 0);
+                x.paragraph(one, 1);
+                due.is("second of form " + form, x.second(1), 1);
+                x.run(1);
+                due.is("steps of form " + form, x.count(4), form == 1 ? 5 : form < 4 ? 4 : 3);
+            }
+        });
         edges.of("9: no cell changes by it", due -> {
             ParagraphWalk x = ofManyWays();
             x.second(1);
@@ -278,6 +317,24 @@ public final class EdgesOfWalkingTest {
             due.is("place", x.place(), 0);
             due.is("steps", x.count(4), 0);
         });
+    }
+
+    /** Out of the sentence to paragraph 3, 2, 3 or 3, or to the end by a stop, a division or an answer. */
+    private static int wayOut(ParagraphWalk x, int form) {
+        int value = Parts.number(x, 1);
+        switch (form) {
+            case 0: return x.node(17, 3, 0);
+            case 1: return x.node(19, 0, 0);
+            case 2: return x.node(19, 1, 0);
+            case 3: return x.node(18, 3, value);
+            case 4: return x.node(24, value, 0);
+            case 5: return Parts.division(x);
+            default: {
+                int it = x.node(25, 0, 0);
+                x.answer(it, 9);
+                return it;
+            }
+        }
     }
 
     /** Four paragraphs with all ways to leave a statement. */
